@@ -125,11 +125,13 @@ public final class LanguageTest {
             CHECK.due("rule 1: " + f, constant ? f.getModifiers() : f.getModifiers() & Modifier.PRIVATE,
                 constant ? want : Modifier.PRIVATE);
             constants += constant ? 1 : 0;
+            boolean loose = Modifier.isStatic(f.getModifiers()) && !Modifier.isFinal(f.getModifiers());
+            CHECK.due("rule 5: " + f, loose ? 1 : 0, 0);
         }
         CHECK.due("rule 1: constants", constants, 4);
         for (Method m : it.getDeclaredMethods()) {
-            CHECK.due("rule 1: " + m, m.getModifiers() & (Modifier.PUBLIC | Modifier.PRIVATE), Modifier.isPublic(
-                m.getModifiers()) ? Modifier.PUBLIC : Modifier.PRIVATE);
+            boolean either = Modifier.isPublic(m.getModifiers()) || Modifier.isPrivate(m.getModifiers());
+            CHECK.due("rule 1: public or private, " + m, either ? 1 : 0, 1);
         }
         Constructor<?>[] constructors = it.getDeclaredConstructors();
         CHECK.due("rule 1: constructors", constructors.length, 1);
@@ -138,12 +140,6 @@ public final class LanguageTest {
         for (Class<?> c : it.getDeclaredClasses()) {
             CHECK.due("rule 2: " + c, Modifier.isStatic(c.getModifiers()) ? 1 : 0, 1);
             CHECK.due("rule 11: fields of " + c, c.getDeclaredFields().length <= 20 ? 1 : 0, 1);
-        }
-        for (Class<?> c = it; c != null; c = null) {
-            for (Field f : c.getDeclaredFields()) {
-                boolean loose = Modifier.isStatic(f.getModifiers()) && !Modifier.isFinal(f.getModifiers());
-                CHECK.due("rule 5: " + f, loose ? 1 : 0, 0);
-            }
         }
     }
 }

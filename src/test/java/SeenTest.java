@@ -114,6 +114,15 @@ public final class SeenTest {
             y.event(0, 1, w);
         }
         due("29: the more even", y.ask(1), 1);
+        // Witness 0 alone does not count, so of ten only the first charge parts one from nine.
+        SwornElsewhere z = Check.of("a01s", "a1;b1;b2");
+        z.need(3);
+        z.event(0, 0, 0);
+        due("29: one of ten", z.ask(0), 0);
+        Check.tell(z, 1, "b1;b2;a1");
+        due("29: one of ten", z.ask(0), 2);
+        Check.tell(z, 1, "");
+        due("29: no charges", z.ask(0), 0);
         due("29: but one", y.ask(0), 0);
     }
 

@@ -225,6 +225,23 @@ public final class SheetTest {
             x.seen(0, 0);
             due("39: digest", x.digest(), byTheDocument(x));
         }
+        digestTellsSpareAndLives();
+    }
+
+    private static void digestTellsSpareAndLives() {
+        SwornElsewhere x = Check.of("a01s", "a5");
+        x.need(3);
+        x.event(2, 0, 7);
+        x.event(1, 0, 0);
+        due("39: one to spare", x.spare(0), 1);
+        due("39: digest", x.digest(), byTheDocument(x));
+        for (int night = 0; night < 24; night++) {
+            for (int town = 0; town < 8; town++) {
+                SwornElsewhere y = Check.of("", (char) ('a' + night) + "" + town);
+                y.need(1);
+                due("39: digest", y.digest(), byTheDocument(y));
+            }
+        }
     }
 
     private static long byTheDocument(SwornElsewhere x) {

@@ -30,6 +30,11 @@ public final class StandTest {
         due("13: against, " + tale, x.stands(tale, 2), against);
     }
 
+    private static SwornElsewhere with(SwornElsewhere x, int kind, int night, int number) {
+        x.event(kind, night, number);
+        return x;
+    }
+
     private static void clash() {
         SwornElsewhere x = Check.of("a00s;b20s;b10s;a01s;b31s;b20d;a70k;h00k", "");
         due("12: two towns in a night", x.clash(0, 1), 1);
@@ -210,6 +215,8 @@ public final class StandTest {
         due("16: by need just so", x.cleared(0, 0), 1);
         x.need(11);
         due("16: not by one less", x.cleared(0, 0), 0);
+        due("15: a doubtful word", Check.of("a31d", "a0").belief(0), 1);
+        due("16: a doubtful word", Check.of("a31d", "a0").cleared(0, 1), 3);
         due("16: charge in town 0", Check.of("", "a0").cleared(0, 1), 1);
         for (int[] b : new int[][] {{-1, 0}, {7, 0}, {0, -1}, {0, 2}}) {
             due("16: BAD", x.cleared(b[0], b[1]), -2);
@@ -231,6 +238,8 @@ public final class StandTest {
     private static void liar() {
         due("18: no tales", new SwornElsewhere().liar(), -1);
         due("18: all count", Check.of("a31s;d32s", "").liar(), -1);
+        due("18: one lie", Check.of("a00s;a20s;b31s", "").liar(), 0);
+        due("18: the first told", with(Check.of("a04s", ""), 0, 0, 4).liar(), 4);
         SwornElsewhere x = Check.of("a08s;a28s;a03s;a23s;a49s;a69s;a79s", "");
         due("18: most", x.liar(), 9);
         x.event(1, 0, 7);
@@ -241,8 +250,18 @@ public final class StandTest {
 
     private static void best() {
         due("19: none", new SwornElsewhere().best(), -1);
+        due("19: town 0", Check.of("b00s", "").best(), 0);
+        due("17: town 0", Check.of("b00s", "").sum(2), 1);
+        due("17: fourteen is no churchwarden", Check.of("m00s", "").sum(3), 0);
+        due("17: fifteen is", Check.of("l00s", "").sum(3), 1);
         SwornElsewhere x = Check.of("c61s;c22s;b73d", "");
         due("19: of like ones the least", x.best(), 2);
+        // 39 and 40: behind a later night they would be alike.
+        SwornElsewhere y = Check.of("a10s;b13d;a21s;b24k", "");
+        for (int i = 0; i < 8; i++) {
+            y.event(2, 5, 1 + i % 2);
+        }
+        due("19: by one", y.best(), 2);
         x.event(2, 4, 7);
         due("19: by a letter", x.best(), 7);
         x.event(0, 0, 1);
@@ -263,6 +282,16 @@ public final class StandTest {
         for (int night = 0; night < due.length; night++) {
             due("20: about one tale, " + night, x.where(night), due[night]);
         }
+        Check.tell(x, 0, "a00s;x70s");
+        due("20: in the first night", x.where(0), 1);
+        due("20: in the second", x.where(1), 3);
+        due("20: in the one before the last", x.where(22), 64 + 128);
+        due("20: in the last night", x.where(23), 128);
+        Check.tell(x, 0, "b00s;w70s");
+        due("20: before the second", x.where(0), 3);
+        due("20: in the second", x.where(1), 1);
+        due("20: in the one before the last", x.where(22), 128);
+        due("20: behind it", x.where(23), 64 + 128);
         Check.tell(x, 0, "e30s;g51s;f72d;f73k");
         due("20: in between", x.where(5), 16);
         due("20: behind", x.where(7), 16 + 32 + 64);

@@ -210,6 +210,11 @@ public final class TellTest {
             due("11: the last is not", x.stands(0, 0), 1);
             x.back();
             x.back();
+            putAll(x, 3, form, 2, 5, 5, 0, 0, 0);
+            due("11: two and no more", x.read(3), 2);
+            due("11: the second is", x.stands(0, 0), 0);
+            x.back();
+            x.back();
             putAll(x, 3, form, -1, 0, 0);
             due("11: none", x.read(3), 0);
             putAll(x, 3, form);
