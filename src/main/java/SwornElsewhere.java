@@ -16,6 +16,8 @@ public final class SwornElsewhere {
     private static final int ALL_TOWNS = 255, SIXTEENTHS = 16;
     private static final int SHEETS = 4, FORMS = 3, BYTES = 0, SHORTS = 1, MOST_ITEMS = 60;
     private static final int NULL = 1, INDEX = 2, CAST = 3, STORE = 4, SIZE = 5;
+    private static final int LEAST_INT = -2147483648;
+    private static final long LEAST_LONG = -9223372036854775808L;
 
     private final Text taleText = new Text(TALE_BYTES, TALE_STEP);
     private final Text chargeText = new Text(CHARGE_BYTES, CHARGE_STEP);
@@ -182,7 +184,7 @@ public final class SwornElsewhere {
 
     public int belief(int charge) {
         if (outside(charge, charges.size)) {
-            return Integer.MIN_VALUE;
+            return LEAST_INT;
         }
         hearAsTold();
         return bench.trust(charges.night[charge], charges.town[charge]);
@@ -397,7 +399,7 @@ public final class SwornElsewhere {
 
     public long chance(int c, int charge, int what) {
         if (outside(c, SIXTEENTHS + 1) || outside(charge, charges.size) || outside(what, 2)) {
-            return Long.MIN_VALUE - BAD;
+            return LEAST_LONG - BAD;
         }
         tallyFavour(c);
         return lowestTerm(favour[charge], what);
@@ -457,7 +459,7 @@ public final class SwornElsewhere {
 
     public int get(int s, int form, int i) {
         if (outside(s, SHEETS) || outside(form, FORMS)) {
-            return Integer.MIN_VALUE;
+            return LEAST_INT;
         }
         Sheet from = sheets[s];
         if (from == null) {
@@ -602,7 +604,7 @@ public final class SwornElsewhere {
     /** For get(), of which every other int may be an item. */
     private int findingAsLeast(int number) {
         latestFinding = number;
-        return Integer.MIN_VALUE;
+        return LEAST_INT;
     }
 
     private Text textOf(int text) {

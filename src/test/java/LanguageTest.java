@@ -55,8 +55,7 @@ public final class LanguageTest {
             CHECK.due("rule 4: import " + imports.group(1), allowed.contains(imports.group(1)) ? 1 : 0, 1);
         }
         Set<String> calls = Set.of("Arrays.fill", "Arrays.copyOf", "Arrays.copyOfRange", "Math.max", "Math.min",
-            "Math.abs", "Integer.bitCount", "Integer.MIN_VALUE", "Integer.MAX_VALUE", "Long.MIN_VALUE",
-            "System.arraycopy");
+            "Math.abs", "Integer.bitCount", "System.arraycopy");
         Matcher library = Pattern.compile("\\b(?:Arrays|Math|Integer|Long|System)\\.\\w+").matcher(code);
         while (library.find()) {
             CHECK.due("rule 4: " + library.group(), calls.contains(library.group()) ? 1 : 0, 1);
