@@ -18,34 +18,41 @@ public final class ModelTest {
     private static void world(int seed) {
         Random lots = new Random(seed);
         Model m = new Model();
-        SwornElsewhere x = new SwornElsewhere();
         // Few nights, towns and witnesses, so that tales meet.
         int nights = 1 + lots.nextInt(seed % 3 == 0 ? 24 : 6);
         int towns = 2 + lots.nextInt(7);
         int witnesses = 1 + lots.nextInt(10);
         m.taleText = tales(lots, lots.nextInt(13), nights, towns, witnesses);
         m.chargeText = charges(lots, lots.nextInt(9), nights, towns);
-        Check.tell(x, 0, m.taleText);
-        Check.tell(x, 1, m.chargeText);
         m.need = 1 + lots.nextInt(seed % 5 == 0 ? 40 : 10);
-        x.need(m.need);
         int events = lots.nextInt(seed % 4 == 0 ? 9 : 5);
         for (int i = 0; i < events; i++) {
-            Model.Event e = new Model.Event(lots.nextInt(3), lots.nextInt(nights), lots.nextInt(10) % (towns + 1));
-            m.events.add(e);
-            x.event(e.kind(), e.night(), e.number());
+            m.events.add(new Model.Event(lots.nextInt(3), lots.nextInt(nights), lots.nextInt(10) % (towns + 1)));
         }
         int seen = lots.nextInt(3);
         for (int i = 0; i < seen; i++) {
-            Model.Seen s = new Model.Seen(lots.nextInt(Math.min(8, m.charges().size() + 1)), lots.nextInt(2));
-            m.seen.add(s);
-            x.seen(s.charge(), s.is());
+            m.seen.add(new Model.Seen(lots.nextInt(Math.min(8, m.charges().size() + 1)), lots.nextInt(2)));
         }
         String name = seed + ": '" + m.taleText + "' '" + m.chargeText + "' " + m.need + " " + m.events + " " + m.seen;
-        ofTales(name, x, m);
-        ofTowns(name, x, m);
-        ofCharges(name, x, m, lots.nextInt(17));
-        ofAll(name, x, m, lots);
+        ofTales(name, made(m), m);
+        for (int town = 0; town < 8; town++) {
+            ofTown(name, made(m), m, town);
+        }
+        ofCharges(name, made(m), m, lots.nextInt(17));
+        ofAll(name, made(m), m, lots);
+    }
+
+    /** A new object told as the model is: each part of a world has one, so that its 512 calls are enough. */
+    private static SwornElsewhere made(Model m) {
+        SwornElsewhere x = Check.of(m.taleText, m.chargeText);
+        x.need(m.need);
+        for (Model.Event e : m.events) {
+            x.event(e.kind(), e.night(), e.number());
+        }
+        for (Model.Seen s : m.seen) {
+            x.seen(s.charge(), s.is());
+        }
+        return x;
     }
 
     private static String tales(Random lots, int n, int nights, int towns, int witnesses) {
@@ -86,18 +93,16 @@ public final class ModelTest {
         }
     }
 
-    private static void ofTowns(String name, SwornElsewhere x, Model m) {
+    private static void ofTown(String name, SwornElsewhere x, Model m, int town) {
         Model.World w = m.world();
         x.sheet(0, 0, 24);
-        for (int town = 0; town < 8; town++) {
-            x.write(town, 0);
-            for (int night = 0; night < 24; night++) {
-                CHECK.due(name + " standing " + night + " " + town, x.man(night, town, 0), w.standing(night, town));
-                CHECK.due(name + " rank " + night + " " + town, x.man(night, town, 1), w.rank(night, town));
-                CHECK.due(name + " written " + night + " " + town, x.get(0, 0, night), w.standing(night, town));
-            }
-        }
+        x.write(town, 0);
         for (int night = 0; night < 24; night++) {
+            CHECK.due(name + " standing " + night + " " + town, x.man(night, town, 0), w.standing(night, town));
+            CHECK.due(name + " rank " + night + " " + town, x.man(night, town, 1), w.rank(night, town));
+            CHECK.due(name + " written " + night + " " + town, x.get(0, 0, night), w.standing(night, town));
+        }
+        for (int night = 0; town == 0 && night < 24; night++) {
             CHECK.due(name + " where " + night, x.where(night), w.where(night));
         }
     }

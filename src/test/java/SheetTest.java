@@ -216,16 +216,22 @@ public final class SheetTest {
         String[][] told = {{"", ""}, {"a01s;b12s;a31k;c32d;c33d", "a5;b5;c5;c0"}, {"a0", "b1"},
             {"a01s;".repeat(11) + "x79k", "a5;b5;c5;c0;x0;x1;x2;x7"}};
         for (String[] t : told) {
-            SwornElsewhere x = Check.of(t[0], t[1]);
-            x.need(3);
-            due("39: digest", x.digest(), byTheDocument(x));
+            due("39: digest", digested(t, false).digest(), EdgeDigest.of(digested(t, false)));
+            due("39: digest", digested(t, true).digest(), EdgeDigest.of(digested(t, true)));
+        }
+        digestTellsSpareAndLives();
+    }
+
+    private static SwornElsewhere digested(String[] told, boolean withEvents) {
+        SwornElsewhere x = Check.of(told[0], told[1]);
+        x.need(3);
+        if (withEvents) {
             x.event(1, 0, 0);
             x.event(2, 3, 0);
             x.event(0, 2, 2);
             x.seen(0, 0);
-            due("39: digest", x.digest(), byTheDocument(x));
         }
-        digestTellsSpareAndLives();
+        return x;
     }
 
     private static void digestTellsSpareAndLives() {
@@ -234,49 +240,13 @@ public final class SheetTest {
         x.event(2, 0, 7);
         x.event(1, 0, 0);
         due("39: one to spare", x.spare(0), 1);
-        due("39: digest", x.digest(), byTheDocument(x));
+        due("39: digest", x.digest(), EdgeDigest.of(x));
         for (int night = 0; night < 24; night++) {
             for (int town = 0; town < 8; town++) {
                 SwornElsewhere y = Check.of("", (char) ('a' + night) + "" + town);
                 y.need(1);
-                due("39: digest", y.digest(), byTheDocument(y));
+                due("39: digest", y.digest(), EdgeDigest.of(y));
             }
         }
-    }
-
-    private static long byTheDocument(SwornElsewhere x) {
-        long h = 17;
-        for (int i = 0; i < 8; i++) {
-            h = 31 * h + x.count(i);
-        }
-        h = 31 * (31 * h + x.fault(0)) + x.fault(1);
-        for (int t = 0; t < 8; t++) {
-            h = 31 * (31 * h + x.man(3, t, 0)) + x.man(12, t, 0);
-            h = 31 * (31 * h + x.man(23, t, 0)) + x.man(23, t, 1);
-        }
-        for (int night = 0; night < 24; night++) {
-            h = 31 * h + x.where(night);
-        }
-        for (int i = 0; i < x.count(0); i++) {
-            long[] of = {x.tale(i, 0), x.tale(i, 1), x.tale(i, 2), x.tale(i, 3), x.stands(i, 0), x.stands(i, 1),
-                x.stands(i, 2), x.move(i, 0), x.move(i, 1), x.was(i, 0), x.was(i, 1), x.ask(i)};
-            h = all(h, of);
-        }
-        for (int i = 0; i < x.count(1); i++) {
-            long[] of = {x.charge(i, 0), x.charge(i, 1), x.belief(i), x.cleared(i, 0), x.cleared(i, 1),
-                x.chance(5, i, 0), x.chance(5, i, 1)};
-            h = all(h, of);
-        }
-        long[] last = {x.sum(0), x.sum(1), x.sum(2), x.sum(3), x.liar(), x.best(), x.drop(0), x.drop(1), x.clean(0),
-            x.clean(1), x.spare(-1), x.spare(0), x.never(), x.lives(7, 9, 0), x.lives(7, 9, 1)};
-        return all(h, last);
-    }
-
-    private static long all(long before, long[] of) {
-        long h = before;
-        for (long v : of) {
-            h = 31 * h + v;
-        }
-        return h;
     }
 }
