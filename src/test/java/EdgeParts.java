@@ -61,6 +61,8 @@ final class EdgeParts {
         edge("BEST: the MAN (his TOWN) of the greatest STANDING behind NIGHT 23, of like ones the least; NONE.", "best = -1",
             "tell 0 x79s, best = 7, tell 0 x79s;x08s, best = 0, tell 0 x79s;x08k, best = 7", "tell 0 a00s, event 0 0 0, best = -1",
             "tell 0 a00s;b11s, times 4 event 2 23 0, times 4 event 2 23 1, best = 0, back, best = 0",
+            // 39 and 40: a night later they would be alike.
+            "tell 0 a10s;b13d;a21s;b24k, times 4 event 2 5 1, times 4 event 2 5 2, man 23 1 0 = 39, man 23 2 0 = 40, best = 2",
             // Both stand at 40, though one would be of more.
             "tell 0 a00k;a11s, times 4 event 2 0 0, times 4 event 2 0 1, best = 1, back, event 2 0 0, best = 0");
     }
@@ -159,9 +161,13 @@ final class EdgeParts {
         edge("ASK of a TALE: the CHARGE (0 to 7) by which the greatest number of those of BY by which he is CLEARED of it alike",
             "tell 0 a01s, tell 1 b1;b2;b3;b4;b5;b6;b7;a1, need 3, ask 0 = 0, event 0 0 0, ask 0 = 7",
             "tell 0 a01s;b01s, tell 1 a1;b1, need 3, event 0 1 2, event 0 1 3, event 0 0 4, ask 1 = 1, ask 0 = 0, tale 1 2 = 1");
+        // Of the first charge he is cleared by four of ten, of the second by five: one witness more would make them alike.
+        edge("the greatest number of those of BY by which he is CLEARED of it alike",
+            "tell 0 a06s;a09d;a25d, tell 1 a2;a1, need 4, event 0 0 0, event 0 0 1, event 0 0 2, event 0 0 3, event 0 0 4, was 0 0 = 1023, ask 0 = 1");
         edge("(or not; of one that there is not by none)", "tell 0 a01s, ask 0 = 0", "tell 0 a01s, tell 1 a0, need 3, ask 0 = 0",
-            // Cleared by three of ten of the first, by one of the second, so seven and nine are alike.
-            "tell 0 a05s, need 3, tell 1 b1;a1, times 1 event 0 0 0, event 0 0 1, event 0 0 2, event 0 0 3, event 0 0 4, event 0 0 6, event 0 0 7, ask 0 = 1");
+            // Cleared of the second by three of ten, so that seven are alike; of the first by none, so that all ten are.
+            "tell 0 a05s, need 3, tell 1 b1;a1, event 0 0 0, event 0 0 1, event 0 0 2, event 0 0 3, event 0 0 4, event 0 0 6, event 0 0 7\n"
+            + "seen 1 1, was 0 0 = 800, forget, ask 0 = 1");
         edge("is least, of like ones the least.", "tell 0 a01s, tell 1 a1;a2;a1, need 3, event 0 0 0, ask 0 = 0, tell 1 b1;a2;a1, ask 0 = 1",
             "tell 0 a01s, tell 1 b1;a1, need 3, event 0 0 0, ask 0 = 1, seen 1 1, ask 0 = 0, seen 1 0, ask 0 = 0",
             "tell 0 a01s, tell 1 b1;a1, need 3, event 0 0 0, seen 7 0, was 0 0 = 0, ask 0 = 0");

@@ -153,6 +153,10 @@ final class EdgeSheet {
         for (State state : State.values()) {
             e.answers("39: digest, " + state, state.made().digest(), EdgeDigest.of(state.made()));
         }
+        e.digested("tell 0 a01s;a52s;b33s, tell 1 a5;b1, need 3, drop 0 = 1, drop 1 = 2");
+        e.digested("tell 0 a00s, tell 1 a1, need 3, event 1 0 0, event 0 0 0, spare -1 = 2, spare 0 = 0, spare 1 = 1");
+        // By seed 7 the ninth is k28s, which counts by the fair, the tenth d02s.
+        e.digested("tell 1 k0;d1;m0, need 3, event 1 12 6, lives 7 8 0 = 0, lives 7 9 0 = 1, lives 7 10 0 = 2");
     }
 
     /** What only asks changes nothing, the findings not either. */

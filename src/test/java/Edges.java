@@ -47,6 +47,15 @@ final class Edges {
         check.due(name, got, want);
     }
 
+    /** The digest of an object so told is made of its other answers. */
+    void digested(String run) {
+        SwornElsewhere x = new SwornElsewhere();
+        SwornElsewhere twin = new SwornElsewhere();
+        Words.run(check, "39: digest", x, run);
+        Words.run(check, "39: digest", twin, run);
+        check.due("39: digest of " + run, x.digest(), EdgeDigest.of(twin));
+    }
+
     /** Calls that only ask, whatever they answer. */
     void changesNothing(State state, String... calls) {
         for (String call : calls) {
