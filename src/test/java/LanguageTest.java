@@ -8,7 +8,9 @@ import java.nio.file.Path;
 import java.util.ArrayList;
 import java.util.HashSet;
 import java.util.List;
+import java.util.Map;
 import java.util.Set;
+import java.util.TreeMap;
 import java.util.TreeSet;
 import java.util.regex.Matcher;
 import java.util.regex.Pattern;
@@ -18,13 +20,22 @@ public final class LanguageTest {
     private static final Check CHECK = new Check();
     private static final Path SOURCE = Path.of("src/main/java/SwornElsewhere.java");
     private static final Path DOCUMENT = Path.of("../shared/DOC.md");
+    private static final int MOST_DEEP = 8;
+
+    /** A method of the class, as its source tells it. */
+    private record Own(String name, String parameters, String body) {
+    }
 
     public static void main(String[] args) throws Exception {
         String code = withoutComments(Files.readString(SOURCE, StandardCharsets.US_ASCII));
         words(code);
-        lengths(code);
+        List<Own> methods = methods(code);
+        parameters(methods);
+        depths(methods);
+        objects(methods);
         library(code);
         face();
+        constants();
         members();
         CHECK.end();
     }
@@ -62,21 +73,81 @@ public final class LanguageTest {
         }
     }
 
-    /** A method begins with a line that ends with ") {" behind a type and a name. */
-    private static void lengths(String code) {
-        Pattern head = Pattern.compile("^( {4}| {8})(?! |if|for|while|switch|else|return)[\\w\\[\\] ]+\\(([^()]*)\\) \\{$");
+    /** A method begins with a line that ends with ") {" behind a type and a name, and ends with a brace as far in. */
+    private static List<Own> methods(String code) {
+        Pattern head = Pattern.compile(
+            "^( {4}| {8})(?! |if|for|while|switch|else|return)[\\w\\[\\] ]*?(\\w+)\\(([^()]*)\\) \\{$");
         List<String> lines = List.of(code.split("\n", -1));
-        int methods = 0;
+        List<Own> methods = new ArrayList<>();
         for (int i = 0; i < lines.size(); i++) {
             Matcher m = head.matcher(lines.get(i));
             if (m.matches()) {
-                methods++;
                 int end = lines.subList(i, lines.size()).indexOf(m.group(1) + "}");
+                String body = String.join("\n", lines.subList(i + 1, i + Math.max(1, end)));
+                methods.add(new Own(m.group(2), m.group(3), body));
                 CHECK.due("rule 11: length of " + lines.get(i), end > 0 && end <= 60 ? 1 : 0, 1);
-                CHECK.due("rule 11: parameters of " + lines.get(i), m.group(2).split(",").length <= 7 ? 1 : 0, 1);
             }
         }
-        CHECK.due("rule 11: methods were found", methods > 60 ? 1 : 0, 1);
+        return methods;
+    }
+
+    private static void parameters(List<Own> methods) {
+        for (Own m : methods) {
+            CHECK.due("rule 11: parameters of " + m.name(), m.parameters().split(",").length <= 7 ? 1 : 0, 1);
+        }
+        CHECK.due("rule 11: methods were found", methods.size() > 80 ? 1 : 0, 1);
+    }
+
+    /** Methods of one name are taken for one, so that calls may seem deeper than they go, never less deep. */
+    private static void depths(List<Own> methods) {
+        Map<String, Set<String>> calls = new TreeMap<>();
+        for (Own m : methods) {
+            Matcher called = Pattern.compile("(?<!new )\\b([a-z]\\w*)\\(").matcher(m.body());
+            Set<String> names = calls.computeIfAbsent(m.name(), name -> new TreeSet<>());
+            while (called.find()) {
+                if (!Set.of("if", "for", "while", "switch", "return").contains(called.group(1))) {
+                    names.add(called.group(1));
+                }
+            }
+        }
+        for (String name : calls.keySet()) {
+            int deep = depth(calls, name, 1);
+            CHECK.due("rule 11: calls from " + name + " go " + deep + " deep", deep <= MOST_DEEP ? 1 : 0, 1);
+        }
+        CHECK.due("rule 11: calls were found", depth(calls, "digest", 1) > 5 ? 1 : 0, 1);
+    }
+
+    /** Those of the library count too; a recursion is deeper than any bound. */
+    private static int depth(Map<String, Set<String>> calls, String name, int above) {
+        int deepest = above;
+        for (String called : calls.getOrDefault(name, Set.of())) {
+            if (above <= MOST_DEEP) {
+                deepest = Math.max(deepest, depth(calls, called, above + 1));
+            }
+        }
+        return deepest;
+    }
+
+    /** Rows are made with the object and used again: of all calls only sheet() makes something. */
+    private static void objects(List<Own> methods) {
+        Set<String> makers = new TreeSet<>();
+        for (Own m : methods) {
+            if (Pattern.compile("\\bnew\\b|clone\\(|copyOf|Integer\\.valueOf|\"").matcher(m.body()).find()) {
+                makers.add(m.name());
+            }
+        }
+        CHECK.due("rule 12: objects are made by " + makers, makers.equals(Set.of("sheet", "Sheet", "Text")) ? 1 : 0, 1);
+    }
+
+    private static void constants() throws Exception {
+        Matcher line = Pattern.compile("public static final int ([^;]*);").matcher(Files.readString(DOCUMENT));
+        CHECK.due("the document's constants", line.find() ? 1 : 0, 1);
+        String[] told = line.group(1).split(", ");
+        CHECK.due("the document's constants, how many", told.length, 4);
+        for (String constant : told) {
+            String[] side = constant.split(" = ");
+            CHECK.due("rule 1: " + constant, SwornElsewhere.class.getField(side[0]).getInt(null), Integer.parseInt(side[1]));
+        }
     }
 
     private static String signature(Class<?> type, String name, Class<?>[] parameters) {

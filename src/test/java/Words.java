@@ -2,6 +2,7 @@ import java.lang.reflect.Method;
 import java.lang.reflect.Modifier;
 import java.util.HashMap;
 import java.util.Map;
+import java.util.Set;
 
 /**
  * Calls written as words: "type 0 97" is type(0, 97), "tell 0 a00s" types a whole text in place of what was,
@@ -22,6 +23,11 @@ final class Words {
             }
         }
         return calls;
+    }
+
+    /** The names of all calls of the face. */
+    static Set<String> names() {
+        return CALLS.keySet();
     }
 
     static long number(String word) {
